@@ -59,6 +59,7 @@ public final class BestTest {
         r.after("guest(0, 3)", "guest(0, 5)").due("knife(3)", 4).due("place(4, 0)", 1).due("place(1, 0)", 1);
         r.after("set(2, 2, 99)", "set(3, 2, 99)", "set(4, 2, 99)").due("knife(3)", 1);
         r.after("lay(4, 0, 0)", "lay(9, 0, 1)", "lay(8, 0, 1)").due("knife(2)", 1);
+        new Run("20, knife, of one alone").after("guest(0, 5)", "lay(5, 0, 1)").due("knife(1)", 5);
         r.due("knife(0)", Run.BEYOND).due("knife(41)", Run.BEYOND).due("status(0)", 2).due("now(0)", 0);
     }
 
@@ -114,5 +115,13 @@ public final class BestTest {
         r.after("set(0, 2, -99)", "set(1, 2, -99)", "set(2, 2, -99)").due("change(10)", 13);
         r.after("set(3, 2, -99)", "lay(5, 0, 1)").due("change(10)", 14);
         r.due("of(1, 1)", 1).due("of(4, 1)", 7).due("now(0)", 0);
+        Run next = new Run("23, change, with the next one");
+        next.after("guest(0, 0)", "guest(0, 5)", "guest(0, 1)", "set(0, 2, -99)", "set(2, 2, -99)").due("change(10)", 1);
+        next.after("swap(0, 1)", "set(0, 2, 0)", "set(1, 2, -99)").due("change(10)", 1);
+        next.after("lay(5, 0, 1)", "lay(5, 1, 1)").due("change(40)", 1).due("count(2)", 0);
+        Run last = new Run("23, change, with the last ones");
+        last.after("guest(0, 0)", "guest(0, 2)", "guest(0, 3)", "guest(0, 4)", "guest(0, 6)", "guest(0, 7)", "guest(0, 8)");
+        last.after("guest(0, 9)", "set(2, 2, -99)", "set(3, 2, -99)", "set(6, 2, -99)").due("change(1)", 2);
+        last.after("swap(2, 0)").due("change(1)", Run.NONE);
     }
 }

@@ -7,6 +7,7 @@ public final class CoursesTest {
         quarrelsGoByHowItEnded();
         quarrelsAreCountedByNeighbours();
         aWholeCourse();
+        aFullTable();
         coursesEnd();
         on();
         mood();
@@ -80,6 +81,21 @@ public final class CoursesTest {
             r.due("of(" + g + ", 2)", 100 + ease[g]);
         }
         r.due("courses(1)", 0).due("now(5)", 1).due("of(5, 3)", 1);
+    }
+
+    private static void aFullTable() {
+        Run r = new Run("12, a full table");
+        for (int g = 0; g < 8; g++) {
+            r.after("guest(0, " + (g + 1) + ")", "lay(" + g + ", 0, 1)", "set(" + g + ", 2, -18)");
+        }
+        // All but the last feel -3 and catch -1 of each beside them, but of the last; the last feels 2 and catches -1.
+        r.due("courses(1)", 127);
+        int[] ease = {-22, -23, -23, -23, -23, -23, -22, -17};
+        int[] quarrels = {1, 2, 2, 2, 2, 2, 1, 0};
+        for (int g = 0; g < 8; g++) {
+            r.due("of(" + g + ", 2)", 100 + ease[g]).due("of(" + g + ", 4)", quarrels[g]);
+        }
+        r.due("on(7, 2, 0)", -15).due("mood(1)", -176 - 2 * 4 - 5 * 5 + 1).due("quarrels(7)", Run.NONE);
     }
 
     /** Goes past the 512th call, for nothing nearer reaches the last course: it's this program's own promise. */

@@ -110,6 +110,7 @@ public final class TextTest {
         r.dinner("guest", -6).dinner("guest ", -7).dinner("guest 10", -7).dinner("guest x", -7).dinner("guest guest", -7);
         r.dinner("guest ;", -7).dinner("guests 3", -1).dinner("gues 3", -1).dinner("Guest 3", -1).dinner("heart", -1);
         r.dinner("guest 3; lady 3", -15).dinner("guest 3 4", -9).dinner("guest 3 guest 4", -9).dinner("guest 3 heart", -9);
+        r.dinner("huest 3", -1).dinner("guesx 3", -1).dinner("may 3", -1).dinner("layz 3", -1).dinner("alay 3", -1);
         r.dinner("host 1", -1).dinner("guest 1; host 2", -10).due("count(0)", 0);
         r.after("guest(0, 5)").dinner("guest 5", -7).dinner("guest 6", 1).due("count(0)", 2).due("status(-1)", 0);
     }
