@@ -187,8 +187,10 @@ public final class ModelTest {
 
     private void stepOfSheets() {
         int s = from(0, 3);
-        switch (any(8)) {
-            case 0: call("sheet", s, new int[] {0, 8, 8, 16, 16, 64, 32}[any(7)], any(6) == 0 ? from(-1, 41) : from(0, 8)); break;
+        switch (any(10)) {
+            case 0:
+            case 8:
+            case 9: call("sheet", s, new int[] {0, 8, 8, 16, 16, 64, 32}[any(7)], any(6) == 0 ? from(-1, 41) : from(0, 8)); break;
             case 1: call("write", s, from(0, 7), from(-110, 110)); break;
             case 2: call("write", s, from(0, 7), (long) any(Integer.MAX_VALUE) << any(34)); break;
             case 3: call("copy", s, from(0, 4), from(0, 3), from(0, 4), from(0, 4)); break;

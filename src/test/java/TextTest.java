@@ -15,6 +15,7 @@ public final class TextTest {
         faultsOfSigns();
         theNinth();
         faultsChangeNothing();
+        whatWasThereIsGone();
         theLongest();
         Run.end();
     }
@@ -162,6 +163,12 @@ public final class TextTest {
         r.due("status(-1)", 0);
     }
 
+    private static void whatWasThereIsGone() {
+        Run r = new Run("26, what was there is gone");
+        r.dinner("lay 4 heartsss", -7).dinner("lay 4 heart", 1).due("place(4, 0)", 1).dinner("lay 44", -5).dinner("lay 4", 1);
+        r.feed("guest 3; lady 5").after("wipe()").dinner("guest 3", 1).due("count(0)", 1);
+    }
+
     private static void theLongest() {
         StringBuilder text = new StringBuilder();
         while (text.length() < 114) {
@@ -169,6 +176,8 @@ public final class TextTest {
         }
         text.setLength(115);
         new Run("26, the longest").dinner(text + "lay 5", 24);
+        String toHeart = text.substring(0, 105) + "     lay5 heart";
+        new Run("26, the longest, with a word last").dinner(toHeart, 22).due("place(5, 0)", 1);
         new Run("26, the longest, too early").dinner(text + "lay5;", -121);
     }
 }
