@@ -1,6 +1,3 @@
-import java.util.ArrayList;
-import java.util.List;
-
 /** Every act that answers a finding changes nothing but status(), and counts it once; every act asked ahead changes nothing. */
 public final class FindingsTest {
     public static void main(String[] args) {
@@ -25,86 +22,19 @@ public final class FindingsTest {
         Run.end();
     }
 
-    /** Four guests, two of whom are sore for good beside one another, 118 bytes of a text and three sheets. */
-    private static Run fixture(String call) {
-        Run r = new Run(call);
-        r.after("guest(0, 0)", "guest(1, 1)", "guest(4, 9)", "guest(3, 5)", "lay(0, 0, 1)", "lay(1, 1, 1)", "lay(1, 2, 7)");
-        r.after("lay(9, 2, 4)", "set(0, 2, -60)", "set(1, 2, -70)", "set(2, 2, 20)", "set(1, 3, 4)", "courses(2)");
-        r.after("sheet(0, 8, 3)", "sheet(1, 8, 2)", "sheet(2, 64, 2)", "write(0, 0, -62)", "write(0, 2, 5)", "write(2, 1, 99)");
-        r.after("image()", "set(3, 4, 2)", "seat(3, 4)");
-        StringBuilder text = new StringBuilder("change 0 1; bride 7; lay 3 heart");
-        while (text.length() < 118) {
-            text.append(' ');
-        }
-        return r.feed(text.toString());
-    }
-
-    private static List<Long> seen(Run r) {
-        List<Long> all = new ArrayList<>();
-        for (int what = 0; what < 6; what++) {
-            all.add(r.ask("now(" + what + ")"));
-        }
-        for (int i = 0; i < 40; i++) {
-            all.add(r.ask("place(" + i / 4 + ", " + i % 4 + ")"));
-        }
-        for (int i = 0; i < 36; i++) {
-            all.add(r.ask("of(" + i / 9 + ", " + i % 9 + ")"));
-        }
-        for (int what = 0; what < 4; what++) {
-            all.add(r.ask("count(" + what + ")"));
-        }
-        int[] sizes = {3, 2, 2};
-        for (int s = 0; s < 3; s++) {
-            for (int i = 0; i < sizes[s]; i++) {
-                long was = r.ask("write(" + s + ", " + i + ", 0)");
-                r.ask("write(" + s + ", " + i + ", " + was + ")");
-                all.add(was);
-            }
-        }
-        return all;
-    }
-
-    private static void keepsAll(String call, long want, int counted) {
-        Run r = fixture(call);
-        List<Long> before = seen(r);
-        long[] statusBefore = status(r);
-        if (want == 0) {
-            r.ask(call);
-        } else {
-            r.due(call, want);
-        }
-        long[] statusThen = status(r);
-        for (int which = -1; which < 7; which++) {
-            int more = counted >= 0 && (which == -1 || which == counted) ? 1 : 0;
-            r.same("status(" + which + ") then", statusThen[which + 1], statusBefore[which + 1] + more);
-        }
-        r.same("all else then", seen(r).equals(before) ? 1 : 0, 1);
-        r.due("write(0, 3, 1)", Run.BEYOND).due("write(1, 2, 1)", Run.BEYOND).due("write(2, 2, 1)", Run.BEYOND);
-        r.due("write(3, 0, 1)", Run.MISSING).due("dinner()", 3).due("count(0)", 5).due("undo()", 4);
-        r.due("of(3, 4)", call.equals("image()") ? 2 : 0).due("of(3, 1)", call.equals("image()") ? 4 : 5);
-    }
-
-    private static long[] status(Run r) {
-        long[] all = new long[8];
-        for (int which = -1; which < 7; which++) {
-            all[which + 1] = r.ask("status(" + which + ")");
-        }
-        return all;
-    }
-
     private static void beyond(String... calls) {
         due(Run.BEYOND, calls);
     }
 
     private static void due(int finding, String... calls) {
         for (String call : calls) {
-            keepsAll(call, finding, Run.BEYOND - finding);
+            Fixture.refuses("a finding", call, finding);
         }
     }
 
     private static void aheadChangesNothing(String... calls) {
         for (String call : calls) {
-            keepsAll(call, 0, -1);
+            Fixture.changesNothing(call);
         }
     }
 }
