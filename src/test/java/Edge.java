@@ -17,6 +17,8 @@ final class Edge {
     static final int TERMS = 0;
 
     private static final Path DOCUMENT = Path.of("../shared/DOC.md");
+    // Without the document (in a checkout that stands alone) what the sentences ask is still asked, but not their words.
+    private static final boolean IS_THERE = Files.isReadable(DOCUMENT);
     private static final Map<Integer, Section> SECTIONS = sections();
 
     private static final class Section {
@@ -55,7 +57,9 @@ final class Edge {
 
     static Edge of(int section, String words) {
         String name = section + ", \"" + words + "\"";
-        new Run(name).same("in the document", SECTIONS.get(section).ask(words) ? 1 : 0, 1);
+        if (IS_THERE) {
+            new Run(name).same("in the document", SECTIONS.get(section).ask(words) ? 1 : 0, 1);
+        }
         return new Edge(name);
     }
 
@@ -112,7 +116,7 @@ final class Edge {
 
     /** Tells what is left of the sections, none of which may be, and ends the test. */
     static void end(int first, int last) {
-        for (int section = first; section <= last; section++) {
+        for (int section = first; section <= last && IS_THERE; section++) {
             String left = SECTIONS.get(section).left();
             new Run("the document").same("left of section " + section + ": " + left, left.isEmpty() ? 1 : 0, 1);
         }
@@ -142,6 +146,10 @@ final class Edge {
     }
 
     private static String document() {
+        if (!IS_THERE) {
+            System.out.println(DOCUMENT + " isn't there: the sentences are not compared with it");
+            return "";
+        }
         try {
             return Files.readString(DOCUMENT);
         } catch (IOException e) {

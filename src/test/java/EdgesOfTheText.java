@@ -131,7 +131,9 @@ final class EdgesOfTheText {
     private static void anotherWord() {
         Run r = of("another WORD,").run().dinner("host 3", -1).dinner("cross", -1).dinner("guest lay", -7).dinner("lay spoon 3", -5);
         r.dinner("lay 3 bride 4", -7).dinner("lay 3;heart", -7).dinner("lay 3 spoon nine", -13).dinner("change zero one", -8);
-        r.dinner("gues 3", -1).dinner("guestt 3", -1).dinner("brides 3", -1).dinner("cardina 3", -1);
+        r.dinner("gues 3", -1).dinner("guestt 3", -1).dinner("brides 3", -1).dinner("cardina 3", -1).dinner("huest 3", -1);
+        r.dinner("guesu 3", -1).dinner("may 3", -1).dinner("lay 3 beart", -7).dinner("lay 3 dross", -7).dinner("lay 3 ppoon 4", -7);
+        r.after("guest(0, 0)", "guest(0, 1)").dinner("dhange 0 1", -1).due("of(0, 1)", 0);
     }
 
     private static void aByteThatBeginsNoToken() {
