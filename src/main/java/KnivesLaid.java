@@ -46,7 +46,6 @@ public final class KnivesLaid {
     private final Table kept;
     private boolean isKept;
     private final Tape tape;
-    private final Dinner text;
     private final Sheet[] sheets;
     private final int[] findings;
 
@@ -56,7 +55,6 @@ public final class KnivesLaid {
         kept = new Table();
         isKept = false;
         tape = new Tape();
-        text = new Dinner(tape, trial);
         sheets = new Sheet[SHEETS];
         for (int s = 0; s < SHEETS; s++) {
             sheets[s] = new Sheet();
@@ -396,7 +394,7 @@ public final class KnivesLaid {
 
     public int dinner() {
         trial.become(table);
-        int answer = text.tell();
+        int answer = Dinner.tell(tape, trial);
         if (answer >= 0) {
             table.become(trial);
         }
@@ -924,40 +922,27 @@ public final class KnivesLaid {
                 start++;
             }
             end = start;
-            if (start >= length) {
-                token = END;
-            } else if (isLetter(bytes[start])) {
-                nextWord();
-            } else if (isDigit(bytes[start])) {
-                nextNumber();
-            } else {
-                token = bytes[start] == ';' ? SIGN : OTHER;
+            number = 0;
+            token = start < length ? tokenWith(bytes[start]) : END;
+            if (token == SIGN || token == OTHER) {
                 end = start + 1;
             }
-        }
-
-        private void nextWord() {
-            token = WORD;
-            while (end < length && isLetter(bytes[end])) {
+            while ((token == WORD || token == NUMBER) && end < length && tokenWith(bytes[end]) == token) {
+                if (token == NUMBER) {
+                    number = Math.min(TOO_GREAT, 10 * number + bytes[end] - '0');
+                }
                 end++;
             }
         }
 
-        private void nextNumber() {
-            token = NUMBER;
-            number = 0;
-            while (end < length && isDigit(bytes[end])) {
-                number = Math.min(TOO_GREAT, 10 * number + bytes[end] - '0');
-                end++;
+        private static int tokenWith(int b) {
+            if (b >= 'a' && b <= 'z') {
+                return WORD;
             }
-        }
-
-        private static boolean isLetter(int b) {
-            return b >= 'a' && b <= 'z';
-        }
-
-        private static boolean isDigit(int b) {
-            return b >= '0' && b <= '9';
+            if (b >= '0' && b <= '9') {
+                return NUMBER;
+            }
+            return b == ';' ? SIGN : OTHER;
         }
 
         boolean isWord(String word) {
@@ -977,22 +962,17 @@ public final class KnivesLaid {
         }
     }
 
-    /** Tells a text to a table; wherever an item answers false, the tape's token is the one that can't stand there. */
+    /** Tells the text on a tape to a table; wherever an item answers false, the tape's token is the one that can't stand there. */
     private static final class Dinner {
-        private final Tape tape;
-        private final Table table;
-
-        Dinner(Tape tape, Table table) {
-            this.tape = tape;
-            this.table = table;
+        private Dinner() {
         }
 
-        int tell() {
+        static int tell(Tape tape, Table table) {
             tape.rewind();
             // An item takes a byte at least, so there are fewer than the tape has bytes.
             for (int items = 1; items <= TAPE_BYTES; items++) {
                 tape.next();
-                if (!tellItem()) {
+                if (!tellItem(tape, table)) {
                     break;
                 }
                 if (tape.token == Tape.END) {
@@ -1005,18 +985,18 @@ public final class KnivesLaid {
             return -1 - tape.start;
         }
 
-        private boolean tellItem() {
+        private static boolean tellItem(Tape tape, Table table) {
             if (tape.isWord("lay")) {
-                return tellLaying();
+                return tellLaying(tape, table);
             }
             if (tape.isWord("change")) {
-                return tellChange();
+                return tellChange(tape, table);
             }
-            int kind = kindNamed();
-            return kind >= 0 && table.guests < MOST_GUESTS && tellGuest(kind);
+            int kind = kindNamed(tape);
+            return kind >= 0 && table.guests < MOST_GUESTS && tellGuest(tape, table, kind);
         }
 
-        private int kindNamed() {
+        private static int kindNamed(Tape tape) {
             for (int kind = 0; kind < KINDS; kind++) {
                 if (tape.isWord(nameOf(kind))) {
                     return kind;
@@ -1036,7 +1016,7 @@ public final class KnivesLaid {
             }
         }
 
-        private boolean tellGuest(int kind) {
+        private static boolean tellGuest(Tape tape, Table table, int kind) {
             tape.next();
             if (!tape.isNumberBelow(PLACES) || table.who[tape.number] != NOBODY) {
                 return false;
@@ -1046,17 +1026,17 @@ public final class KnivesLaid {
             return true;
         }
 
-        private boolean tellLaying() {
+        private static boolean tellLaying(Tape tape, Table table) {
             tape.next();
             if (!tape.isNumberBelow(PLACES)) {
                 return false;
             }
             int place = tape.number;
             tape.next();
-            int knife = tellPerhaps("heart");
-            int fork = tellPerhaps("cross");
+            int knife = tellPerhaps(tape, "heart");
+            int fork = tellPerhaps(tape, "cross");
             int spoon = 0;
-            if (tellPerhaps("spoon") == 1) {
+            if (tellPerhaps(tape, "spoon") == 1) {
                 if (!tape.isNumberBelow(MOST_HAIRS + 1)) {
                     return false;
                 }
@@ -1067,7 +1047,7 @@ public final class KnivesLaid {
             return true;
         }
 
-        private int tellPerhaps(String word) {
+        private static int tellPerhaps(Tape tape, String word) {
             if (!tape.isWord(word)) {
                 return 0;
             }
@@ -1075,7 +1055,7 @@ public final class KnivesLaid {
             return 1;
         }
 
-        private boolean tellChange() {
+        private static boolean tellChange(Tape tape, Table table) {
             tape.next();
             if (!tape.isNumberBelow(table.guests)) {
                 return false;

@@ -28,6 +28,7 @@ public final class FaceTest {
 
     public static void main(String[] args) throws Exception {
         face();
+        faceOfTheDocument();
         names();
         text();
         room();
@@ -54,6 +55,28 @@ public final class FaceTest {
         for (Field f : c.getDeclaredFields()) {
             R.same("private " + f.getName(), Modifier.isPrivate(f.getModifiers()) ? 1 : 0, 1);
         }
+    }
+
+    /** The methods above are the document's, one for one; in a checkout that stands alone there is nothing to compare. */
+    private static void faceOfTheDocument() throws Exception {
+        Path document = Path.of("../shared/DOC.md");
+        if (!Files.isReadable(document)) {
+            System.out.println(document + " isn't there: the face is not compared with it");
+            return;
+        }
+        String[] parts = Files.readString(document).split("(?m)^## The public face$|^## Terms$");
+        R.same("the document's parts", parts.length, 3);
+        Set<String> due = new TreeSet<>(Set.of("public final class KnivesLaid {", "public KnivesLaid();"));
+        for (String m : FACE) {
+            due.add("public " + m + ";");
+        }
+        for (String line : parts[1].split("\n")) {
+            if (line.contains("public")) {
+                String told = line.trim().replaceAll("(int|long) \\w+(?=[,)])", "$1").replace(", ", ",");
+                R.same("of the face: " + told, due.remove(told) ? 1 : 0, 1);
+            }
+        }
+        R.same("not of the face: " + due, due.size(), 0);
     }
 
     private static void names() {
